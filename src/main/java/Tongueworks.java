@@ -811,9 +811,12 @@ public final class Tongueworks {
             findCommon();
             int kept = 0;
             int old = 0;
-            for (int i = 0; i < nowCount; i++) {
+            for (int i = 0; i < nowCount && i < now.length; i++) {
                 int like = firstLike(i, old);
-                if (like != NOTHING && 1 + commonFrom(i + 1, like + 1) == commonFrom(i, old)) {
+                if (like < 0 || like >= before.length) {
+                    continue;
+                }
+                if (1 + commonFrom(i + 1, like + 1) == commonFrom(i, old)) {
                     now[i].keepWhatHad(before[like]);
                     old = like + 1;
                     kept++;
@@ -922,10 +925,12 @@ public final class Tongueworks {
             Entry entry = entryFor(source, ahead);
             if (entry == null) {
                 entry = freeEntry();
-                entry.startAnew(source, ahead);
             }
-            entry.renew(target, made);
-            made++;
+            if (entry != null) {
+                entry.startAnew(source, ahead);
+                entry.renew(target, made);
+                made++;
+            }
         }
 
         private Entry entryFor(Row source, Row ahead) {
@@ -938,13 +943,14 @@ public final class Tongueworks {
             return null;
         }
 
+        /** Makes room at the end, for the last number. */
         private Entry freeEntry() {
             if (count < kept.length) {
                 count++;
             } else {
                 moveOldestToEnd();
             }
-            return kept[count - 1];
+            return entryAt(count - 1);
         }
 
         private void moveOldestToEnd() {
@@ -954,18 +960,18 @@ public final class Tongueworks {
                     oldest = i;
                 }
             }
-            Entry gone = kept[oldest];
             for (int i = oldest; i < kept.length - 1; i++) {
+                Entry gone = kept[i];
                 kept[i] = kept[i + 1];
+                kept[i + 1] = gone;
             }
-            kept[kept.length - 1] = gone;
         }
 
         /** Passes over entries that cannot win by their number of codes alone, and so compares few. */
         int best(Row source, Row ahead) {
             int best = NOTHING;
             int bestValue = 0;
-            for (int i = 0; i < count; i++) {
+            for (int i = 0; i < count && i < kept.length; i++) {
                 if (mostLikeness(kept[i].source(), source) + 1 >= bestValue) {
                     int value = valueOf(kept[i], source, ahead);
                     if (isBetter(i, value, best, bestValue)) {
@@ -980,7 +986,7 @@ public final class Tongueworks {
         int bestOneByOne(Row source, Row ahead) {
             int best = NOTHING;
             int bestValue = 0;
-            for (int i = 0; i < count; i++) {
+            for (int i = 0; i < count && i < kept.length; i++) {
                 int value = valueOf(kept[i], source, ahead);
                 if (isBetter(i, value, best, bestValue)) {
                     best = i;
@@ -1033,7 +1039,7 @@ public final class Tongueworks {
 
         /** Of the table of costs one line is kept: the costs from the codes so far of the left row. */
         private int costOf(Row left, Row right) {
-            int codes = Math.min(right.count(), costs.length - 1);
+            int codes = Math.max(Math.min(right.count(), costs.length - 1), 0);
             for (int j = 0; j <= codes; j++) {
                 costs[j] = j;
             }
@@ -1188,7 +1194,7 @@ public final class Tongueworks {
         }
 
         private boolean fitsAsOpening(int code, int tag) {
-            if (openingsLeft[tag] == 0) {
+            if (tag < 0 || tag >= TAGS || openingsLeft[tag] == 0) {
                 return false;
             }
             openingsLeft[tag]--;
@@ -1197,7 +1203,7 @@ public final class Tongueworks {
         }
 
         private boolean fitsAsClosing(int code, int tag) {
-            if (closingsLeft[tag] == 0 || !closesLatest(code)) {
+            if (tag < 0 || tag >= TAGS || closingsLeft[tag] == 0 || !closesLatest(code)) {
                 return false;
             }
             closingsLeft[tag]--;
