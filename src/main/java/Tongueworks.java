@@ -62,12 +62,18 @@ public final class Tongueworks {
         if (!book.isBegun()) {
             throw new IllegalStateException("no version was begun");
         }
-        return book.takeDraft();
+        book.takeDraft();
+        return book.cutAnew();
     }
 
     public boolean setException(int word, boolean isException) throws IllegalArgumentException {
         checkWord(word);
-        return book.changeException(word, isException);
+        boolean was = book.isException(word);
+        if (was != isException) {
+            book.markException(word, isException);
+            book.cutAnew();
+        }
+        return was;
     }
 
     public int cutAt(int index, boolean isSplit) throws IndexOutOfBoundsException, IllegalArgumentException {
@@ -77,7 +83,9 @@ public final class Tongueworks {
         if (Codes.isPiece(book.fileAt(index)) || Codes.isPiece(book.fileAt(index + 1))) {
             throw new IllegalArgumentException("a piece of the skeleton");
         }
-        return book.cutByHand(index, isSplit);
+        book.markCut(index, isSplit);
+        book.cutAnew();
+        return book.count();
     }
 
     public int segments() {
@@ -150,12 +158,13 @@ public final class Tongueworks {
     public int fill(int hand, int segment)
             throws IndexOutOfBoundsException, IllegalStateException, NoSuchElementException {
         Segment found = held(hand, segment);
-        Row ahead = book.sourceAheadOf(segment);
-        Entry match = memory.entryAt(memory.best(found.source(), ahead));
+        Row ahead = book.sourceOf(segment - 1);
+        int best = memory.best(found.source(), ahead);
+        Entry match = memory.entryAt(best);
         if (match == null) {
             throw new NoSuchElementException("no match");
         }
-        int value = memory.valueOf(match, found.source(), ahead);
+        int value = memory.valueAt(best, found.source(), ahead);
         found.translate(match.target(), value >= FULL_LIKENESS ? TRANSLATED : DRAFT);
         Fitter.fitNumbers(found.target(), match.source(), found.source());
         Fitter.fitTerm(found.target(), match.source(), found.source(), terms);
@@ -170,7 +179,7 @@ public final class Tongueworks {
             throw new UnsupportedOperationException("not well tagged, or not with the tags of its source");
         }
         found.setTargetState(APPROVED);
-        memory.remember(found.source(), found.target(), book.sourceAheadOf(segment));
+        memory.remember(found.source(), found.target(), book.sourceOf(segment - 1));
         return book.spread(found);
     }
 
@@ -210,17 +219,24 @@ public final class Tongueworks {
     }
 
     public int ageOf(int entry) throws IndexOutOfBoundsException {
-        return reachEntry(entry).age();
+        Entry found = memory.entryAt(entry);
+        if (found == null) {
+            throw new IndexOutOfBoundsException("no such entry");
+        }
+        return found.age();
     }
 
     public int valueFor(int segment, int entry) throws IndexOutOfBoundsException {
         Segment found = reach(segment);
-        return memory.valueOf(reachEntry(entry), found.source(), book.sourceAheadOf(segment));
+        if (memory.entryAt(entry) == null) {
+            throw new IndexOutOfBoundsException("no such entry");
+        }
+        return memory.valueAt(entry, found.source(), book.sourceOf(segment - 1));
     }
 
     public int bestFor(int segment) throws IndexOutOfBoundsException, NoSuchElementException {
         Segment found = reach(segment);
-        int best = memory.best(found.source(), book.sourceAheadOf(segment));
+        int best = memory.best(found.source(), book.sourceOf(segment - 1));
         if (best == NOTHING) {
             throw new NoSuchElementException("no match");
         }
@@ -229,7 +245,7 @@ public final class Tongueworks {
 
     public int bestAnew(int segment) throws IndexOutOfBoundsException, NoSuchElementException {
         Segment found = reach(segment);
-        int best = memory.bestOneByOne(found.source(), book.sourceAheadOf(segment));
+        int best = memory.bestOneByOne(found.source(), book.sourceOf(segment - 1));
         if (best == NOTHING) {
             throw new NoSuchElementException("no match");
         }
@@ -285,14 +301,19 @@ public final class Tongueworks {
         }
         int values = 0;
         for (int i = 0; i < all; i++) {
-            values += bestValueOf(i);
+            Row source = book.sourceOf(i);
+            Row ahead = book.sourceOf(i - 1);
+            values += memory.valueAt(memory.best(source, ahead), source, ahead);
         }
         return (double) values / (double) all;
     }
 
     public boolean isSound() {
-        for (int i = 0; i < book.count(); i++) {
-            if (!isSoundSegment(i)) {
+        int all = book.count();
+        for (int i = 0; i < all; i++) {
+            Row source = book.sourceOf(i);
+            Row ahead = book.sourceOf(i - 1);
+            if (memory.best(source, ahead) != memory.bestOneByOne(source, ahead) || !isSoundIfApproved(i)) {
                 return false;
             }
         }
@@ -346,14 +367,6 @@ public final class Tongueworks {
         return found;
     }
 
-    private Entry reachEntry(int entry) {
-        Entry found = memory.entryAt(entry);
-        if (found == null) {
-            throw new IndexOutOfBoundsException("no such entry");
-        }
-        return found;
-    }
-
     private boolean hasSoundTags(Segment segment) {
         return tagger.isWellTagged(segment.target())
                 && tally.hasSameTags(segment.target(), segment.source());
@@ -370,26 +383,9 @@ public final class Tongueworks {
         return faults;
     }
 
-    private int bestValueOf(int segment) {
+    private boolean isSoundIfApproved(int segment) {
         Segment found = book.segmentAt(segment);
-        if (found == null) {
-            return 0;
-        }
-        Row ahead = book.sourceAheadOf(segment);
-        Entry match = memory.entryAt(memory.best(found.source(), ahead));
-        return match == null ? 0 : memory.valueOf(match, found.source(), ahead);
-    }
-
-    private boolean isSoundSegment(int segment) {
-        Segment found = book.segmentAt(segment);
-        if (found == null) {
-            return false;
-        }
-        if (found.state() == APPROVED && !hasSoundTags(found)) {
-            return false;
-        }
-        Row ahead = book.sourceAheadOf(segment);
-        return memory.best(found.source(), ahead) == memory.bestOneByOne(found.source(), ahead);
+        return found != null && (found.state() != APPROVED || hasSoundTags(found));
     }
 
     /** Tells what a code is. */
@@ -474,14 +470,14 @@ public final class Tongueworks {
         }
 
         void append(Row other) {
-            int others = other.count();
+            int others = other.size;
             for (int i = 0; i < others; i++) {
                 put(other.at(i));
             }
         }
 
         void become(Row other) {
-            dropAll();
+            size = 0;
             append(other);
         }
 
@@ -648,7 +644,7 @@ public final class Tongueworks {
             return draft.count();
         }
 
-        int takeDraft() {
+        void takeDraft() {
             // the old file stays in the other row, as the old segments look at it until they are matched
             Row old = file;
             file = draft;
@@ -658,27 +654,22 @@ public final class Tongueworks {
             for (int i = 0; i < cuts.length; i++) {
                 cuts[i] = NO_CUT;
             }
-            return cutAnew();
         }
 
-        boolean changeException(int word, boolean isException) {
-            if (word < 0 || word >= exceptions.length) {
-                return false;
-            }
-            boolean was = exceptions[word];
-            if (was != isException) {
+        boolean isException(int code) {
+            return code >= 0 && code < exceptions.length && exceptions[code];
+        }
+
+        void markException(int word, boolean isException) {
+            if (word >= 0 && word < exceptions.length) {
                 exceptions[word] = isException;
-                cutAnew();
             }
-            return was;
         }
 
-        int cutByHand(int index, boolean isSplit) {
+        void markCut(int index, boolean isSplit) {
             if (index >= 0 && index < cuts.length) {
                 cuts[index] = isSplit ? SPLIT : JOINED;
-                cutAnew();
             }
-            return nowCount;
         }
 
         int fileCount() {
@@ -698,9 +689,9 @@ public final class Tongueworks {
         }
 
         /** A source has one code at least, so an empty row can tell that there is none. */
-        Row sourceAheadOf(int index) {
-            Segment ahead = index > 0 ? segmentAt(index - 1) : null;
-            return ahead == null ? none : ahead.source();
+        Row sourceOf(int index) {
+            Segment segment = segmentAt(index);
+            return segment == null ? none : segment.source();
         }
 
         int countHeldBy(int hand) {
@@ -756,7 +747,8 @@ public final class Tongueworks {
             return row.isLike(file);
         }
 
-        private int cutAnew() {
+        /** Tells how many segments have kept what they had. */
+        int cutAnew() {
             Segment[] old = now;
             now = before;
             before = old;
@@ -800,10 +792,6 @@ public final class Tongueworks {
         private boolean isCutByRule(int ahead) {
             boolean isInRow = ahead != NOTHING && !Codes.isPiece(ahead);
             return isInRow && !isException(ahead);
-        }
-
-        private boolean isException(int code) {
-            return code >= 0 && code < exceptions.length && exceptions[code];
         }
 
         /** Taking the first old one that is like leaves most to the next, so no other choice is better. */
@@ -972,12 +960,13 @@ public final class Tongueworks {
             int best = NOTHING;
             int bestValue = 0;
             for (int i = 0; i < count && i < kept.length; i++) {
-                if (mostLikeness(kept[i].source(), source) + 1 >= bestValue) {
-                    int value = valueOf(kept[i], source, ahead);
-                    if (isBetter(i, value, best, bestValue)) {
-                        best = i;
-                        bestValue = value;
-                    }
+                if (mostLikeness(kept[i].source(), source) + 1 < bestValue) {
+                    continue;
+                }
+                int value = valueAt(i, source, ahead);
+                if (isBetter(i, value, best, bestValue)) {
+                    best = i;
+                    bestValue = value;
                 }
             }
             return best;
@@ -986,8 +975,8 @@ public final class Tongueworks {
         int bestOneByOne(Row source, Row ahead) {
             int best = NOTHING;
             int bestValue = 0;
-            for (int i = 0; i < count && i < kept.length; i++) {
-                int value = valueOf(kept[i], source, ahead);
+            for (int i = 0; i < count; i++) {
+                int value = valueAt(i, source, ahead);
                 if (isBetter(i, value, best, bestValue)) {
                     best = i;
                     bestValue = value;
@@ -1005,8 +994,9 @@ public final class Tongueworks {
             return entry != null && other != null && entry.age() > other.age();
         }
 
-        int valueOf(Entry entry, Row source, Row ahead) {
-            if (mostLikeness(entry.source(), source) < LEAST_LIKENESS) {
+        int valueAt(int index, Row source, Row ahead) {
+            Entry entry = entryAt(index);
+            if (entry == null || mostLikeness(entry.source(), source) < LEAST_LIKENESS) {
                 return 0;
             }
             int likeness = likenessOf(entry.source(), source);
@@ -1070,21 +1060,23 @@ public final class Tongueworks {
         private final int[] counts = new int[SLOTS];
 
         boolean hasSameTags(Row left, Row right) {
-            weigh(left, right);
+            forget();
+            countCodes(left, 1);
+            countCodes(right, -1);
             return isLevel(0, TAG_SLOTS);
         }
 
         boolean hasSameNumbers(Row left, Row right) {
-            weigh(left, right);
+            forget();
+            countCodes(left, 1);
+            countCodes(right, -1);
             return isLevel(TAG_SLOTS, SLOTS);
         }
 
-        private void weigh(Row left, Row right) {
+        private void forget() {
             for (int i = 0; i < counts.length; i++) {
                 counts[i] = 0;
             }
-            countCodes(left, 1);
-            countCodes(right, -1);
         }
 
         private void countCodes(Row row, int step) {
@@ -1153,7 +1145,7 @@ public final class Tongueworks {
         }
 
         private boolean closesLatest(int closing) {
-            return open.last() == closing - FIRST_CLOSING + FIRST_OPENING;
+            return open.at(open.count() - 1) == closing - FIRST_CLOSING + FIRST_OPENING;
         }
 
         private void countTags(Row source) {

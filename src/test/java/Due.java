@@ -79,7 +79,8 @@ final class Due {
 
     static String source(Tongueworks x, int segment) {
         StringBuilder text = new StringBuilder();
-        for (int i = 0; i < x.length(segment); i++) {
+        int codes = x.length(segment);
+        for (int i = 0; i < codes; i++) {
             text.append(i == 0 ? "" : " ").append(x.sourceAt(segment, i));
         }
         return text.toString();
@@ -87,18 +88,20 @@ final class Due {
 
     static String sources(Tongueworks x) {
         StringBuilder text = new StringBuilder();
-        for (int i = 0; i < x.segments(); i++) {
+        int segments = x.segments();
+        for (int i = 0; i < segments; i++) {
             text.append(i == 0 ? "" : "|").append(source(x, i));
         }
         return text.toString();
     }
 
     static String target(Tongueworks x, int segment) {
-        if (x.targetLength(segment) < 0) {
+        int codes = x.targetLength(segment);
+        if (codes < 0) {
             return "none";
         }
         StringBuilder text = new StringBuilder();
-        for (int i = 0; i < x.targetLength(segment); i++) {
+        for (int i = 0; i < codes; i++) {
             text.append(i == 0 ? "" : " ").append(x.targetAt(segment, i));
         }
         return text.toString();
@@ -106,7 +109,8 @@ final class Due {
 
     static String states(Tongueworks x) {
         StringBuilder text = new StringBuilder();
-        for (int i = 0; i < x.segments(); i++) {
+        int segments = x.segments();
+        for (int i = 0; i < segments; i++) {
             text.append(x.stateOf(i));
         }
         return text.toString();
@@ -114,28 +118,25 @@ final class Due {
 
     static String together(Tongueworks x) {
         StringBuilder text = new StringBuilder();
-        for (int i = 0; i < x.together(); i++) {
+        int codes = x.together();
+        for (int i = 0; i < codes; i++) {
             text.append(i == 0 ? "" : " ").append(x.togetherAt(i));
         }
         return text.toString();
     }
 
-    static String memory(Tongueworks x) {
-        StringBuilder text = new StringBuilder();
-        for (int i = 0; i < x.entries(); i++) {
-            text.append(i == 0 ? "" : " ").append(x.ageOf(i));
-            for (int s = 0; s < x.segments(); s++) {
-                text.append('/').append(x.valueFor(s, i));
-            }
+    /** Told in few calls, as a bench is used for 512 at most. */
+    private static String stateOf(Tongueworks x) {
+        StringBuilder text = new StringBuilder(states(x));
+        int segments = x.segments();
+        for (int i = 0; i < segments; i++) {
+            text.append(' ').append(x.length(i)).append('/').append(x.targetLength(i));
+        }
+        text.append(' ').append(x.sum());
+        int entries = x.entries();
+        for (int i = 0; i < entries; i++) {
+            text.append(' ').append(x.ageOf(i));
         }
         return text.toString();
-    }
-
-    private static String stateOf(Tongueworks x) {
-        StringBuilder text = new StringBuilder(sources(x));
-        for (int i = 0; i < x.segments(); i++) {
-            text.append(" [").append(target(x, i)).append(']');
-        }
-        return text + " " + states(x) + " " + together(x) + " " + memory(x);
     }
 }

@@ -293,7 +293,7 @@ public final class HandsTest {
         Due.is("18 all free ones follow", Due.states(x), "tatttn");
         Due.is("18 with the target", Due.target(x, 4), "9");
         Due.is("18 others do not", Due.target(x, 5), "none");
-        Due.is("18 one entry", Due.memory(x).split(" ").length, 1);
+        Due.is("18 one entry", x.entries(), 1);
         x.hold(1, 0);
         x.setApart(2, true);
         x.hold(2, 3);
