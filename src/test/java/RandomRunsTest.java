@@ -9,6 +9,9 @@ public final class RandomRunsTest {
     private final int words;
     private final int codes;
     private final boolean isWild;
+    /** Short files of many words, nearly always approved: such runs fill the memory. */
+    private final boolean isBusy;
+    private final int numberShare;
     private Tongueworks bench = new Tongueworks();
     private Plain plain = new Plain();
     private final StringBuilder told = new StringBuilder();
@@ -18,8 +21,10 @@ public final class RandomRunsTest {
     private RandomRunsTest(int run) {
         this.run = run;
         random = new Random(7919L * run + 13);
-        words = 1 + random.nextInt(run % 3 == 0 ? 2 : 6);
-        codes = run % 10 == 0 ? 80 : 6 + random.nextInt(30);
+        isBusy = run % 5 == 2;
+        words = isBusy ? 60 : 1 + random.nextInt(run % 3 == 0 ? 2 : 6);
+        codes = isBusy ? 6 : run % 10 == 0 ? 80 : 6 + random.nextInt(30);
+        numberShare = run % 7 == 1 ? 6 : 2;
         isWild = run % 4 == 0;
     }
 
@@ -34,10 +39,12 @@ public final class RandomRunsTest {
     }
 
     private boolean isAsDue() {
-        boolean isSame = version(null);
+        boolean isSame = version(null) && (run % 5 != 4 || terms());
         while (isSame && calls < CALLS) {
             int kind = random.nextInt(100);
-            if (kind < 3) {
+            if (isBusy && kind < 50) {
+                isSame = busy();
+            } else if (kind < 3) {
                 isSame = version(plain);
             } else if (kind < 12) {
                 isSame = work();
@@ -51,13 +58,37 @@ public final class RandomRunsTest {
     /** A new file: drawn anew, or the old one with a few changes. */
     private boolean version(Plain old) {
         boolean isSame = same("begin", () -> (Object) bench.begin(), () -> plain.begin());
-        int kept = old != null && random.nextInt(3) > 0 ? old.file.size() : 0;
+        int kept = old != null && !isBusy && random.nextInt(3) > 0 ? old.file.size() : 0;
         int count = kept > 0 ? kept : random.nextInt(codes + 1);
         for (int i = 0; i < count && isSame; i++) {
             int code = kept > 0 && random.nextInt(12) > 0 ? old.file.get((i + random.nextInt(40) / 39) % kept) : code();
             isSame = same("add " + code, () -> (Object) bench.add(code), () -> plain.add(code));
         }
         return isSame && same("take", () -> (Object) bench.take(), () -> plain.take());
+    }
+
+    /** A new file, and each of its segments approved. */
+    private boolean busy() {
+        boolean isSame = version(null);
+        for (int i = 0; i < plain.segs.size() && isSame; i++) {
+            int s = i;
+            isSame = same("hold 0 " + s, () -> (Object) bench.hold(0, s), () -> plain.hold(0, s))
+                    && same("copy 0 " + s, () -> (Object) bench.copy(0, s), () -> plain.copy(0, s))
+                    && same("approve 0 " + s, () -> (Object) bench.approve(0, s), () -> plain.approve(0, s));
+        }
+        return isSame;
+    }
+
+    /** A wanted word for each word, so that near matches are mended by terms. */
+    private boolean terms() {
+        boolean isSame = true;
+        for (int i = 1; i <= words && isSame; i++) {
+            int word = i;
+            int wanted = 1 + i % words;
+            isSame = same("want " + word + " " + wanted,
+                    () -> (Object) bench.want(word, wanted), () -> plain.want(word, wanted));
+        }
+        return isSame;
     }
 
     /** Holds a segment, gives it a target, and approves it. */
@@ -69,7 +100,7 @@ public final class RandomRunsTest {
         if (way == 0) {
             isSame &= same("copy " + hand + " " + s, () -> (Object) bench.copy(hand, s), () -> plain.copy(hand, s));
         } else if (way == 1) {
-            isSame &= same("fill " + hand + " " + s, () -> (Object) bench.fill(hand, s), () -> plain.fill(hand, s));
+            isSame &= filled(hand, s);
         }
         for (int i = random.nextInt(6); i > 0 && way != 0 && isSame; i--) {
             int code = code();
@@ -86,6 +117,12 @@ public final class RandomRunsTest {
         return isSame;
     }
 
+    /** The sum behind it tells whether the target was fitted well. */
+    private boolean filled(int hand, int s) {
+        return same("fill " + hand + " " + s, () -> (Object) bench.fill(hand, s), () -> plain.fill(hand, s))
+                && same("sum", () -> (Object) bench.sum(), () -> plain.sum());
+    }
+
     private int odd() {
         int[] odd = {-1, 0, 80, 100, 300, 310, Integer.MAX_VALUE, Integer.MIN_VALUE, 24, 3};
         return odd[random.nextInt(odd.length)];
@@ -99,11 +136,14 @@ public final class RandomRunsTest {
         if (kind < 9) {
             return 1 + random.nextInt(words);
         }
-        if (kind < 13) {
-            return 0;
+        if (kind < 13 - numberShare / 2) {
+            return isBusy ? 1 + random.nextInt(words) : 0;
+        }
+        if (kind < 13 + numberShare / 2) {
+            return isBusy ? 0 : 80 + random.nextInt(3);
         }
         if (kind < 15) {
-            return 80 + random.nextInt(3);
+            return 0;
         }
         if (kind < 17) {
             return 100 + random.nextInt(2);
@@ -188,7 +228,7 @@ public final class RandomRunsTest {
             case 18:
                 return same("mend" + who, () -> (Object) bench.mend(hand, s), () -> plain.mend(hand, s));
             case 19:
-                return same("fill" + who, () -> (Object) bench.fill(hand, s), () -> plain.fill(hand, s));
+                return filled(hand, s);
             case 20:
                 return same("approve" + who, () -> (Object) bench.approve(hand, s), () -> plain.approve(hand, s));
             default:
@@ -234,7 +274,8 @@ public final class RandomRunsTest {
                 return same("forbid " + word + flag,
                         () -> (Object) bench.forbid(word, flag), () -> plain.forbid(word, flag));
             default:
-                return random.nextInt(8) > 0 || same("begin", () -> (Object) bench.begin(), () -> plain.begin())
+                return random.nextInt(3) > 0 || same("begin", () -> (Object) bench.begin(), () -> plain.begin())
+                        && (random.nextInt(4) > 0 || same("begin", () -> (Object) bench.begin(), () -> plain.begin()))
                         && same("take", () -> (Object) bench.take(), () -> plain.take());
         }
     }
