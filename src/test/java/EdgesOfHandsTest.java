@@ -19,6 +19,7 @@ public final class EdgesOfHandsTest {
         aValueOf100OrMore();
         asManyNumberWords();
         justOnePlace();
+        leastAndGreatestWord();
         fittedIsMended();
         othersGetItsTarget();
         onlyTheFaults1And2();
@@ -261,9 +262,11 @@ public final class EdgesOfHandsTest {
     private static void closedAtTheEnd() {
         String text = "16 'then, at its end, all that are open are closed, the latest one first': ";
         Due.is(text + "one", mended(row(100, 200), 100, 5, 0), "100 5 0 200");
-        Due.is(text + "three", mended(row(100, 200, 105, 205, 109, 209), 105, 100, 109, 5), "105 100 109 5 209 200 205");
+        Due.is(text + "three",
+                mended(row(100, 200, 105, 205, 109, 209), 105, 100, 109, 5), "105 100 109 5 209 200 205");
         Due.is(text + "also more than in the source", mended(row(100, 5), 100), "100 200");
-        Due.is(text + "those that are closed are not", mended(row(100, 101, 201, 200), 101, 201, 100), "101 201 100 200");
+        Due.is(text + "those that are closed are not",
+                mended(row(100, 101, 201, 200), 101, 201, 100), "101 201 100 200");
     }
 
     private static void asManyAsAreMissing() {
@@ -387,6 +390,8 @@ public final class EdgesOfHandsTest {
         Due.is(text + "one and one", fitted(row(4, 80), row(80), 4, 99), "99");
         Due.is(text + "one and two", fitted(row(4, 80, 5), row(80), 4, 99, 98), "80");
         Due.is(text + "two and one", fitted(row(4, 80, 81), row(80, 81), 4, 99, 5), "80 81");
+        Due.is(text + "the first code, and the last one", fitted(row(80, 4, 5, 6), row(80), 4, 5, 6, 90), "90");
+        Due.is(text + "the last code, and the first one", fitted(row(4, 5, 6, 80), row(80), 90, 4, 5, 6), "90");
         Due.is(text + "79 and 100 are no number words",
                 fitted(row(79, 80, 100, 200), row(79, 80, 100, 200), 79, 81, 100, 200), "79 81 100 200");
         String kth = "17 'of several the first such k, becomes the k-th one of the segment's source': ";
@@ -410,6 +415,8 @@ public final class EdgesOfHandsTest {
         String both = "17 'and both of these are words with a wanted word': ";
         Due.is(both + "the entry's is none", fitted(row(4, 5), row(11), 2, 5), "11");
         Due.is(both + "the segment's is none", fitted(row(1, 5), row(11), 4, 5), "11");
+        Due.is(both + "the entry's is none, so no end becomes a word", fitted(row(4, 5), row(11, 0), 2, 5), "11 0");
+        Due.is(both + "the segment's is none, so no word becomes an end", fitted(row(1, 5), row(11, 0), 4, 5), "11 0");
         Due.is(both + "an end is no word", fitted(row(1, 5), row(11), 0, 5), "11");
         Due.is(both + "a number word is no word", fitted(row(1, 80), row(11, 80), 80, 80), "11 80");
         Due.is(both + "the same wanted word for both", fitted(row(2, 5), row(12, 11), 3, 5), "12 11");
@@ -417,6 +424,35 @@ public final class EdgesOfHandsTest {
         Due.is(each + "none is", fitted(row(1, 5), row(1, 12), 2, 5), "1 12");
         Due.is(each + "all are", fitted(row(1, 5), row(11, 11, 11), 2, 5), "12 12 12");
         Due.is(each + "the first and the last", fitted(row(1, 5), row(11, 7, 11), 2, 5), "12 7 12");
+    }
+
+    /** The least and the greatest word, as wanted ones and as those that have them. */
+    private static void leastAndGreatestWord() {
+        String text = "17 'words with a wanted word', 1 and 79: ";
+        Tongueworks x = new Tongueworks();
+        x.want(1, 79);
+        x.want(79, 1);
+        Due.version(x, 1, 5, 300, 79, 5);
+        Due.approve(x, 0, 79, 1, 0);
+        x.hold(0, 1);
+        Due.is(text + "the value", x.fill(0, 1), 50);
+        Due.is(text + "1 and then 79", Due.target(x, 1), "1 1 0");
+        Due.version(x, 79, 5);
+        Due.approve(x, 0, 1, 79, 0);
+        Due.version(x, 1, 5, 5);
+        x.hold(0, 0);
+        x.fill(0, 0);
+        Due.is(text + "another number of codes", Due.target(x, 0), "79 1 0");
+        x.want(1, 78);
+        Due.version(x, 1, 7);
+        Due.approve(x, 0, 78, 78);
+        Due.version(x, 79, 7);
+        x.hold(0, 0);
+        x.fill(0, 0);
+        Due.is(text + "the wanted word at the time", Due.target(x, 0), "1 1");
+        x.want(79, 0);
+        x.fill(0, 0);
+        Due.is(text + "none then", Due.target(x, 0), "78 78");
     }
 
     private static void fittedIsMended() {
