@@ -772,8 +772,9 @@ public final class Tongueworks {
         }
 
         private void startSegment(int first, int codes) {
-            if (nowCount >= 0 && nowCount < now.length) {
-                now[nowCount].startAnew(file, first, codes);
+            Segment segment = nowCount >= 0 && nowCount < now.length ? now[nowCount] : null;
+            if (segment != null) {
+                segment.startAnew(file, first, codes);
                 nowCount++;
             }
         }
@@ -799,13 +800,15 @@ public final class Tongueworks {
             findCommon();
             int kept = 0;
             int old = 0;
-            for (int i = 0; i < nowCount && i < now.length; i++) {
+            for (int i = 0; i < nowCount; i++) {
                 int like = firstLike(i, old);
-                if (like < 0 || like >= before.length) {
+                Segment fresh = segmentAt(i);
+                Segment past = oldAt(like);
+                if (fresh == null || past == null) {
                     continue;
                 }
                 if (1 + commonFrom(i + 1, like + 1) == commonFrom(i, old)) {
-                    now[i].keepWhatHad(before[like]);
+                    fresh.keepWhatHad(past);
                     old = like + 1;
                     kept++;
                 }
@@ -823,8 +826,13 @@ public final class Tongueworks {
         }
 
         private boolean areLike(int index, int old) {
-            return index >= 0 && index < now.length && old >= 0 && old < before.length
-                    && now[index].source().isLike(before[old].source());
+            Segment fresh = segmentAt(index);
+            Segment past = oldAt(old);
+            return fresh != null && past != null && fresh.source().isLike(past.source());
+        }
+
+        private Segment oldAt(int index) {
+            return index >= 0 && index < beforeCount && index < before.length ? before[index] : null;
         }
 
         private void findCommon() {
@@ -944,7 +952,7 @@ public final class Tongueworks {
         private void moveOldestToEnd() {
             int oldest = 0;
             for (int i = 1; i < kept.length; i++) {
-                if (kept[i].age() < kept[oldest].age()) {
+                if (isOlder(entryAt(i), entryAt(oldest))) {
                     oldest = i;
                 }
             }
@@ -955,12 +963,17 @@ public final class Tongueworks {
             }
         }
 
+        private static boolean isOlder(Entry entry, Entry other) {
+            return entry != null && other != null && entry.age() < other.age();
+        }
+
         /** Passes over entries that cannot win by their number of codes alone, and so compares few. */
         int best(Row source, Row ahead) {
             int best = NOTHING;
             int bestValue = 0;
-            for (int i = 0; i < count && i < kept.length; i++) {
-                if (mostLikeness(kept[i].source(), source) + 1 < bestValue) {
+            for (int i = 0; i < count; i++) {
+                Entry entry = entryAt(i);
+                if (entry == null || mostLikeness(entry.source(), source) + 1 < bestValue) {
                     continue;
                 }
                 int value = valueAt(i, source, ahead);
@@ -991,7 +1004,7 @@ public final class Tongueworks {
             }
             Entry entry = entryAt(index);
             Entry other = entryAt(best);
-            return entry != null && other != null && entry.age() > other.age();
+            return isOlder(other, entry);
         }
 
         int valueAt(int index, Row source, Row ahead) {
